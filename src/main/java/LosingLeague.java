@@ -144,8 +144,7 @@ public final class LosingLeague {
         if (games.openOnes() > MOST_OPEN) {
             return STATE;
         }
-        tree.begin(rules, games);
-        return tree.reaches(side, place) ? 1 : 0;
+        return tree.reaches(rules, games, side, place) ? 1 : 0;
     }
 
     public int out(int side) {
@@ -183,7 +182,7 @@ public final class LosingLeague {
         if (games.openOnes() > 0) {
             return STATE;
         }
-        growTree();
+        tree.growPays(rules, games);
         return (int) part(tree.expected(side), tree.scale(), what);
     }
 
@@ -196,7 +195,7 @@ public final class LosingLeague {
         if (games.openOnes() > MOST_OPEN) {
             return STATE;
         }
-        growTree();
+        tree.growPays(rules, games);
         return part(tree.expected(side), tree.scale(), what);
     }
 
@@ -207,7 +206,7 @@ public final class LosingLeague {
         if (games.openOnes() > MOST_OPEN) {
             return STATE;
         }
-        growTree();
+        tree.growPays(rules, games);
         return part(tree.expectedIf(side, g, won), tree.scale(), what);
     }
 
@@ -218,7 +217,7 @@ public final class LosingLeague {
         if (games.openOnes() > MOST_OPEN) {
             return STATE;
         }
-        growTree();
+        tree.growPays(rules, games);
         return tree.losers(g);
     }
 
@@ -229,7 +228,7 @@ public final class LosingLeague {
         if (games.openOnes() > MOST_OPEN) {
             return STATE;
         }
-        growTree();
+        tree.growPays(rules, games);
         switch (what) {
             case 0: return tree.firstUnwanted(side);
             case 1: return tree.firstUnwantedByBoth();
@@ -244,8 +243,7 @@ public final class LosingLeague {
         if (games.openOnes() > MOST_OPEN) {
             return STATE;
         }
-        tree.begin(rules, games);
-        tree.growPlace(side, place);
+        tree.growPlace(rules, games, side, place);
         return part(tree.expected(side), tree.allChances(), what);
     }
 
@@ -257,7 +255,7 @@ public final class LosingLeague {
         if (open > MOST_PLAYED || open == 0) {
             return STATE;
         }
-        growTree();
+        tree.growPays(rules, games);
         tree.playBack();
         switch (what) {
             case 0: return tree.pair;
@@ -273,7 +271,7 @@ public final class LosingLeague {
         if (games.openOnes() > MOST_PLAYED) {
             return STATE;
         }
-        growTree();
+        tree.growPays(rules, games);
         tree.playBack();
         return part(tree.value[side], tree.scale(), what);
     }
@@ -285,7 +283,7 @@ public final class LosingLeague {
         if (games.openOnes() > MOST_OPEN) {
             return STATE;
         }
-        growTree();
+        tree.growPays(rules, games);
         tree.countBack();
         switch (what) {
             case 0: return tree.unwanted;
@@ -412,11 +410,6 @@ public final class LosingLeague {
 
     private static boolean isLane(int lane) {
         return lane >= 0 && lane < LANES;
-    }
-
-    private void growTree() {
-        tree.begin(rules, games);
-        tree.growPays();
     }
 
     private int takeEnds(Sheet row, int from, int g, int many) {
@@ -631,11 +624,14 @@ public final class LosingLeague {
 
     /** The TABLE of some GAMES, who is OUT by them, and who chooses when. */
     private static final class Standing {
+        /** Below every number of games won since, so that such SIDES come behind all others. */
+        private static final int NEVER_OUT = -1;
+
         final int[] won = new int[MOST_SIDES];
         final int[] order = new int[MOST_SIDES];
         final int[] seat = new int[MOST_SIDES];
         final int[] outAt = new int[MOST_SIDES];
-        final int[] wonLate = new int[MOST_SIDES];
+        final int[] merit = new int[MOST_SIDES];
         final int[] toCome = new int[MOST_SIDES];
         final int[] turn = new int[MOST_SIDES];
         int sides;
@@ -675,7 +671,7 @@ public final class LosingLeague {
         void findOut(Games games) {
             for (int s = 0; s < sides; s++) {
                 outAt[s] = NONE;
-                wonLate[s] = 0;
+                merit[s] = NEVER_OUT;
                 won[s] = 0;
                 toCome[s] = 0;
             }
@@ -696,8 +692,8 @@ public final class LosingLeague {
 
         private int countWin(int side) {
             won[side]++;
-            if (outAt[side] != NONE) {
-                wonLate[side]++;
+            if (merit[side] != NEVER_OUT) {
+                merit[side]++;
             }
             return won[side];
         }
@@ -707,6 +703,7 @@ public final class LosingLeague {
             for (int s = 0; s < sides; s++) {
                 if (outAt[s] == NONE && won[s] + toCome[s] < most) {
                     outAt[s] = g;
+                    merit[s] = 0;
                 }
             }
         }
@@ -750,16 +747,12 @@ public final class LosingLeague {
             for (int i = 0; i < sides; i++) {
                 int side = fromLast(i);
                 int at = i;
-                while (at > 0 && merit(turn[at - 1]) < merit(side)) {
+                while (at > 0 && merit[turn[at - 1]] < merit[side]) {
                     turn[at] = turn[at - 1];
                     at--;
                 }
                 turn[at] = side;
             }
-        }
-
-        private int merit(int side) {
-            return outAt[side] == NONE ? -1 : wonLate[side];
         }
 
         /** PAY of every SIDE, times the rules' payUnit, into a row. */
@@ -817,7 +810,7 @@ public final class LosingLeague {
         int firstPaying;
 
         /** The caller has seen that no more than MOST_OPEN are OPEN; more would be left out. */
-        void begin(Rules told, Games games) {
+        private void begin(Rules told, Games games) {
             rules.copyFrom(told);
             trial.copyFrom(games);
             depth = 0;
@@ -837,21 +830,24 @@ public final class LosingLeague {
             standing.settle(trial, rules.sides);
         }
 
-        void growPays() {
+        void growPays(Rules told, Games games) {
+            begin(told, games);
             for (int row = 0; row < 1 << depth; row++) {
                 lookAt(row);
                 standing.payAll(rules, trial, leaf, row * MOST_SIDES);
             }
         }
 
-        void growPlace(int side, int place) {
+        void growPlace(Rules told, Games games, int side, int place) {
+            begin(told, games);
             for (int row = 0; row < 1 << depth; row++) {
                 lookAt(row);
                 leaf[row * MOST_SIDES + side] = standing.seat[side] == place ? 1 : 0;
             }
         }
 
-        boolean reaches(int side, int place) {
+        boolean reaches(Rules told, Games games, int side, int place) {
+            begin(told, games);
             for (int row = 0; row < 1 << depth; row++) {
                 lookAt(row);
                 if (standing.seat[side] <= place && winsAllOpen(side)) {
@@ -1294,12 +1290,12 @@ public final class LosingLeague {
                 told[w] = 0;
             }
             tape.split();
-            while (at < MOST_BYTES && tape.token[at] != Tape.AT_END) {
+            while (lines < MOST_BYTES && tape.token[at] != Tape.AT_END) {
                 if (!takeLine()) {
                     return false;
                 }
                 lines++;
-                at++;
+                step();
             }
             return fitsTogether();
         }
@@ -1307,17 +1303,14 @@ public final class LosingLeague {
         private boolean fitsTogether() {
             boolean noBalls = draft.kind == BY_BALLS && draft.allBalls() == 0;
             boolean twice = draft.kind == BY_WHEEL && draft.wheelHasTwice();
-            return noBalls || twice ? fail(6, tape.length) : true;
+            return noBalls || twice ? fail(6) : true;
         }
 
-        private boolean fail(int what, int place) {
+        /** At the TOKEN at hand; the end's place is the length. */
+        private boolean fail(int what) {
             flaw = what;
-            flawPlace = place;
+            flawPlace = tape.start[at];
             return false;
-        }
-
-        private boolean failHere(int what) {
-            return fail(what, tape.start[at]);
         }
 
         /** From a line's NAME to its ; which is the TOKEN at hand then. */
@@ -1335,16 +1328,20 @@ public final class LosingLeague {
                 case Tape.CHOICE: taken = takePair(Tape.CHOICE, draft.choiceWorth, 0, 99); break;
                 case Tape.BALLS: taken = takePair(Tape.BALLS, draft.balls, 0, 20); break;
                 case Tape.WHEEL: taken = takePair(Tape.WHEEL, draft.wheel, 0, draft.sides - 1); break;
-                default: taken = failHere(2); break;
+                default: taken = fail(2); break;
             }
-            return taken && stepTo(Tape.STOP);
+            if (!taken) {
+                return false;
+            }
+            step();
+            return isDue(Tape.STOP);
         }
 
         private boolean takeSides() {
             int behind = told[Tape.STRENGTH] | told[Tape.PLACE] | told[Tape.CHOICE]
                 | told[Tape.BALLS] | told[Tape.WHEEL] | told[Tape.ROUND];
             if (told[Tape.SIDES] != 0 || behind != 0) {
-                return failHere(4);
+                return fail(4);
             }
             told[Tape.SIDES] = 1;
             if (!takeNumber(2, MOST_SIDES)) {
@@ -1356,10 +1353,11 @@ public final class LosingLeague {
 
         private boolean takeRule() {
             if (told[Tape.RULE] != 0) {
-                return failHere(4);
+                return fail(4);
             }
             told[Tape.RULE] = 1;
-            if (!stepTo(Tape.NAME)) {
+            step();
+            if (!isDue(Tape.NAME)) {
                 return false;
             }
             switch (tape.meaning[at]) {
@@ -1368,13 +1366,13 @@ public final class LosingLeague {
                 case Tape.DAY: draft.kind = BY_DAY; return true;
                 case Tape.WHEEL: draft.kind = BY_WHEEL; return true;
                 case Tape.ALIKE: draft.kind = BY_ALIKE; return true;
-                default: return failHere(2);
+                default: return fail(2);
             }
         }
 
         private boolean takeRound() {
             if ((draft.rounds + 1) * draft.gamesOfRound() > MOST_GAMES) {
-                return failHere(5);
+                return fail(5);
             }
             told[Tape.ROUND] = 1;
             draft.rounds++;
@@ -1388,7 +1386,7 @@ public final class LosingLeague {
             }
             int which = tape.meaning[at];
             if ((told[word] & (1 << which)) != 0) {
-                return failHere(4);
+                return fail(4);
             }
             told[word] |= 1 << which;
             if (!takeNumber(least, most)) {
@@ -1399,26 +1397,26 @@ public final class LosingLeague {
         }
 
         private boolean takeNumber(int least, int most) {
-            if (!stepTo(Tape.NUMBER)) {
+            step();
+            if (!isDue(Tape.NUMBER)) {
                 return false;
             }
             int value = tape.meaning[at];
-            return (value >= least && value <= most) || failHere(3);
+            return (value >= least && value <= most) || fail(3);
         }
 
-        /** Behind the end there is nothing, but no line goes on behind it. */
-        private boolean stepTo(int due) {
+        /** Never behind the end: that is due nowhere, so no line goes on behind it. */
+        private void step() {
             if (at < MOST_BYTES) {
                 at++;
             }
-            return isDue(due);
         }
 
         private boolean isDue(int due) {
             if (tape.token[at] == Tape.NO_TOKEN) {
-                return failHere(1);
+                return fail(1);
             }
-            return tape.token[at] == due || failHere(2);
+            return tape.token[at] == due || fail(2);
         }
     }
 }

@@ -120,6 +120,11 @@ public final class PromisesTest {
         due(4, "no blanks", x.rule(30), 9);
         due(4, "many blanks", tell(x, "  sides   2  ;  round  ;  "), 2);
         due(4, "many blanks", x.count(1), 1);
+        due(4, "240 bytes", tell(x, " ".repeat(225) + "sides 3; round;"), 2);
+        due(4, "240 bytes", x.count(1), 3);
+        due(4, "240 TOKENS", tell(x, ";".repeat(240)), -10);
+        due(4, "240 TOKENS", x.fault(), 2);
+        due(4, "one line too short at 240", tell(x, " ".repeat(225) + "sides 3; round "), -250);
         for (int k = 0; k < 5; k++) {
             String[] kinds = {"worst", "balls", "day", "wheel", "alike"};
             tell(x, "rule " + kinds[k] + ";");
@@ -337,6 +342,10 @@ public final class PromisesTest {
             due(14, "balls: pay", b.pay(s, 0), pays[s][0]);
             due(14, "balls: pay", b.pay(s, 1), pays[s][1]);
         }
+        LosingLeague one = told("sides 2;rule balls;balls 1 0;place 0 7;choice 0 60;choice 1 1;");
+        due(14, "one ball in all", one.pay(0, 0), 8);
+        due(14, "one ball in all", one.pay(1, 0), 60);
+        due(14, "one ball in all", one.pay(1, 1), 1);
     }
 
     private static void dayChooses() {
@@ -644,6 +653,12 @@ public final class PromisesTest {
         due(29, "NULL is found at a CELL alone", x.torn(), 0);
         due(28, "CAST, none to read", x.read(2, 0, 0, 3, 0), 0);
         due(29, "CAST is found ahead of all CELLS", x.torn(), 3);
+        LosingLeague y = told("round;round;round;round;round;");
+        y.sheet(0, 0, 40);
+        due(28, "thirty", y.read(0, 0, 10, 0, 30), 30);
+        due(28, "thirty", y.count(2), 0);
+        due(28, "thirty, the last is missing", y.read(0, 0, 11, 0, 30), 0);
+        due(29, "thirty, the last is missing", y.torn(), 2);
     }
 
     private static void counts() {
