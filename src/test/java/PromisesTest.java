@@ -147,6 +147,9 @@ public final class PromisesTest {
         flaw("Round;", 1, 0);
         flaw("round;  rounds;", 1, 8);
         flaw("place 0 007;", 1, 8);
+        flaw("roundz;", 1, 0);
+        flaw("aound;", 1, 0);
+        flaw("rounda;", 1, 0);
         flaw("rule best;", 1, 5);
         flaw("sides \u00e9;", 1, 6);
         flaw("sides", 2, 5);
@@ -192,6 +195,17 @@ public final class PromisesTest {
         told("rule wheel;wheel 0 3;wheel 3 0;");
         told("balls 0 0;balls 1 0;balls 2 0;balls 3 0;wheel 1 0;");
         told("sides 6;round;round;");
+        told("place 0 0;choice 0 0;balls 0 0;wheel 0 0;strength 0 1;");
+        // what end() has cut away is not read any more
+        LosingLeague cut = new LosingLeague();
+        cut.feed(eight("rounds12", 0));
+        cut.end(5);
+        due(4, "text() of a NAME cut short", cut.text(), -15);
+        due(5, "fault() of a NAME cut short", cut.fault(), 2);
+        cut.feed(eight("sides 33", 0));
+        cut.end(7);
+        due(4, "text() of a NUMBER cut short", cut.text(), -17);
+        due(5, "fault() of a NUMBER cut short", cut.fault(), 2);
     }
 
     private static void ruleBad() {
