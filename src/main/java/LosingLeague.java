@@ -1139,15 +1139,15 @@ public final class LosingLeague {
             return Math.min(n, length - f);
         }
 
-        /** A machine casts nothing without a FAULT, and finds NULL and INDEX only where it reads a CELL. */
+        /** Every FAULT is one of a CELL that was to be read: where all n were, or n is 0, there is none. */
         int machineFault(int asLane, int whole, int n) {
-            if (exists && asLane != lane) {
-                return CAST_FAULT;
-            }
             if (whole >= n) {
                 return NO_FAULT;
             }
-            return exists ? INDEX_FAULT : NULL_FAULT;
+            if (!exists) {
+                return NULL_FAULT;
+            }
+            return asLane != lane ? CAST_FAULT : INDEX_FAULT;
         }
     }
 

@@ -672,11 +672,10 @@ final class Oracle {
         List<Integer> cells = new ArrayList<>();
         int found = 0;
         try {
-            byte[] b = lane == 0 ? (byte[]) sheets[k] : null;
-            short[] s = lane == 1 ? (short[]) sheets[k] : null;
-            int[] w = lane == 2 ? (int[]) sheets[k] : null;
             for (int i = 0; i < m; i++) {
-                int v = lane == 0 ? b[f + i] : lane == 1 ? s[f + i] : w[f + i];
+                // cast anew at each CELL: without one to read there is nothing that the machine refuses
+                int v = lane == 0 ? ((byte[]) sheets[k])[f + i]
+                    : lane == 1 ? ((short[]) sheets[k])[f + i] : ((int[]) sheets[k])[f + i];
                 if (v < 0 || v > 2) return -20 - i;
                 cells.add(v);
             }

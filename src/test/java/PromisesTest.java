@@ -663,16 +663,53 @@ public final class PromisesTest {
         due(29, "INDEX below", x.torn(), 2);
         due(28, "INDEX far", x.read(2, 1, MAX, 0, 3), 0);
         due(28, "INDEX far below", x.read(2, 1, MIN, 0, 3), 0);
-        due(28, "NULL, none to read", x.read(3, 0, 0, 3, 0), 0);
-        due(29, "NULL is found at a CELL alone", x.torn(), 0);
-        due(28, "CAST, none to read", x.read(2, 0, 0, 3, 0), 0);
-        due(29, "CAST is found ahead of all CELLS", x.torn(), 3);
+        due(29, "INDEX far below", x.torn(), 2);
         LosingLeague y = told("round;round;round;round;round;");
         y.sheet(0, 0, 40);
         due(28, "thirty", y.read(0, 0, 10, 0, 30), 30);
         due(28, "thirty", y.count(2), 0);
         due(28, "thirty, the last is missing", y.read(0, 0, 11, 0, 30), 0);
         due(29, "thirty, the last is missing", y.torn(), 2);
+    }
+
+    /** Each read of no GAME follows one with a FAULT, so that a FAULT 0 is seen to be the later one's. */
+    private static void readOfNone() {
+        LosingLeague x = told("sides 3;round;");
+        x.sheet(0, 0, 2);
+        x.sheet(1, 1, 0);
+        x.sheet(2, 2, 40);
+        int[] from = {0, 1, 2, 40, -1, MIN, MAX};
+        for (int k = 0; k < 4; k++) {
+            for (int lane = 0; lane < 3; lane++) {
+                for (int f : from) {
+                    String what = "read(" + k + ", " + lane + ", " + f + ", .., 0)";
+                    x.read(3, 0, 0, 0, 1);
+                    due(29, "NULL ahead of " + what, x.torn(), 1);
+                    due(28, what, x.read(k, lane, f, Math.abs(f % 4), 0), 0);
+                    due(29, "torn() behind " + what, x.torn(), 0);
+                }
+            }
+        }
+        due(28, "no END became another", x.count(2), 3);
+    }
+
+    /** With one END to read, of each SHEET as of each lane: NULL whatever the lane, CAST ahead of INDEX. */
+    private static void readOfOne() {
+        LosingLeague x = told("sides 3;round;");
+        x.sheet(0, 0, 1);
+        x.sheet(1, 1, 0);
+        x.sheet(2, 2, 1);
+        int[][] faults = {{0, 3, 3}, {3, 2, 3}, {3, 3, 0}, {1, 1, 1}};
+        int[][] behind = {{2, 3, 3}, {3, 2, 3}, {3, 3, 2}, {1, 1, 1}};
+        for (int k = 0; k < 4; k++) {
+            for (int lane = 0; lane < 3; lane++) {
+                x.ends(0, 1);
+                due(28, "one of SHEET " + k + " as " + lane, x.read(k, lane, 0, 0, 1), faults[k][lane] == 0 ? 1 : 0);
+                due(29, "one of SHEET " + k + " as " + lane, x.torn(), faults[k][lane]);
+                due(28, "one behind SHEET " + k + " as " + lane, x.read(k, lane, 1, 0, 1), 0);
+                due(29, "one behind SHEET " + k + " as " + lane, x.torn(), behind[k][lane]);
+            }
+        }
     }
 
     private static void counts() {
@@ -704,6 +741,8 @@ public final class PromisesTest {
         thumbsAndFines();
         sheetsAndCells();
         readAndTorn();
+        readOfNone();
+        readOfOne();
         counts();
         System.out.println(wrong == 0 ? "all answers are as due" : wrong + " answers are not as due");
         if (wrong != 0) {
