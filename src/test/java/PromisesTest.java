@@ -1,50 +1,5 @@
 /** Each promise of the document by its number: ordinary inputs, the edges it names, wrong inputs. */
-public final class PromisesTest {
-    private static final int BAD = LosingLeague.BAD, STATE = LosingLeague.STATE;
-    private static final int FULL = LosingLeague.FULL, NONE = LosingLeague.NONE;
-    private static final int MIN = Integer.MIN_VALUE, MAX = Integer.MAX_VALUE;
-    private static int wrong = 0;
-
-    private static void due(int promise, String call, long got, long want) {
-        if (got != want) {
-            wrong++;
-            System.out.println("promise " + promise + ": " + call + " answered " + got + ", due is " + want);
-        }
-    }
-
-    private static long eight(String text, int at) {
-        long v = 0;
-        for (int i = 0; i < 8; i++) {
-            v = v << 8 | (at + i < text.length() ? text.charAt(at + i) : ' ');
-        }
-        return v;
-    }
-
-    private static int tell(LosingLeague x, String text) {
-        x.end(0);
-        for (int at = 0; at < text.length(); at += 8) {
-            x.feed(eight(text, at));
-        }
-        x.end(text.length());
-        return x.text();
-    }
-
-    private static LosingLeague told(String text) {
-        LosingLeague x = new LosingLeague();
-        int lines = 0;
-        for (int i = 0; i < text.length(); i++) {
-            if (text.charAt(i) == ';') lines++;
-        }
-        due(4, "text() of " + text, tell(x, text), lines);
-        return x;
-    }
-
-    private static void endAll(LosingLeague x, int... ends) {
-        for (int g = 0; g < ends.length; g++) {
-            x.ends(g, ends[g]);
-        }
-    }
-
+public final class PromisesTest extends Bench {
     private static void flaw(String text, int what, int place) {
         LosingLeague x = told("sides 3;rule day;round;");
         due(4, "text() of " + text, tell(x, text), -10 - place);
@@ -744,9 +699,6 @@ public final class PromisesTest {
         readOfNone();
         readOfOne();
         counts();
-        System.out.println(wrong == 0 ? "all answers are as due" : wrong + " answers are not as due");
-        if (wrong != 0) {
-            System.exit(1);
-        }
+        finish();
     }
 }
