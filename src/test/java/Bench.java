@@ -84,15 +84,16 @@ abstract class Bench {
     /** All that holds and can be asked without a change: the rules, the GAMES, the counts, the FAULTS. */
     static String seen(LosingLeague x) {
         StringBuilder all = new StringBuilder();
-        all.append(x.rule(0)).append(' ').append(x.rule(1));
+        int sides = x.rule(0), games = x.count(1);
+        all.append(sides).append(' ').append(x.rule(1));
         for (int tens = 10; tens <= 50; tens += 10) {
             all.append(" /");
-            for (int i = 0; i < x.rule(0); i++) {
+            for (int i = 0; i < sides; i++) {
                 all.append(' ').append(x.rule(tens + i));
             }
         }
         all.append(" games");
-        for (int g = 0; g < x.count(1); g++) {
+        for (int g = 0; g < games; g++) {
             all.append(' ').append(x.of(g, 0)).append(x.of(g, 1)).append(x.of(g, 2));
         }
         all.append(" counts");

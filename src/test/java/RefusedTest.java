@@ -52,10 +52,15 @@ public final class RefusedTest extends Bench {
         tell(x, "round;");
         for (int k = 0; k < 4; k++) {
             for (int lane = 0; lane < 3; lane++) {
-                for (int i = 0; i < 5; i++) {
+                int fault = 0;
+                for (int i = 0; i < 5 && fault == 0; i++) {
                     x.ends(0, 2);
-                    all.append(' ').append(x.read(k, lane, i, 0, 1)).append(x.of(0, 2)).append(x.torn());
+                    // of no GAME: the FAULT asked for below is the next read's own
+                    x.read(k, lane, i, 0, 0);
+                    all.append(' ').append(x.read(k, lane, i, 0, 1)).append(x.of(0, 2));
+                    fault = x.torn();
                 }
+                all.append(" /").append(fault);
             }
         }
         return all.toString();
