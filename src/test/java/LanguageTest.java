@@ -7,6 +7,9 @@ import java.nio.charset.StandardCharsets;
 import java.nio.file.Files;
 import java.nio.file.Path;
 import java.util.Arrays;
+import java.util.HashMap;
+import java.util.HashSet;
+import java.util.Map;
 import java.util.Set;
 import java.util.TreeSet;
 import java.util.regex.Matcher;
@@ -81,6 +84,7 @@ public final class LanguageTest {
             must(fields <= 20, "11: " + c + " has " + fields + " fields");
             for (Method m : c.getDeclaredMethods()) {
                 must(m.getParameterCount() <= 7, "11: " + m + " takes more than seven");
+                must(Arrays.stream(FACE).noneMatch(f -> f.contains(" " + m.getName() + "(")), "1: " + m + " bears a public name");
             }
         }
     }
@@ -102,15 +106,56 @@ public final class LanguageTest {
         }
     }
 
-    private static void lengths(String source) {
+    /** A method's name with its lines; those that two classes have under one name stand together. */
+    private static Map<String, String> methods(String source) {
+        Map<String, String> bodies = new HashMap<>();
         String[] lines = source.split("\n");
-        Pattern head = Pattern.compile("^( +)(?!.*\\b(class|new|return|else)\\b)[a-z].*\\) \\{$");
+        Pattern head = Pattern.compile("^( {4}| {8})(?!.*\\b(class|new|return|else|if|for|while|switch)\\b)[a-z][^(]*?(\\w+)\\(.*\\) \\{$");
         for (int i = 0; i < lines.length; i++) {
             Matcher m = head.matcher(lines[i]);
-            if (!m.matches() || m.group(1).length() > 8) continue;
-            int end = i;
-            while (end < lines.length && !lines[end].equals(m.group(1) + "}")) end++;
+            if (!m.matches()) continue;
+            StringBuilder body = new StringBuilder();
+            int end = i + 1;
+            for (; end < lines.length && !lines[end].equals(m.group(1) + "}"); end++) body.append(lines[end]).append('\n');
             must(end - i <= 60, "11: a method of " + (end - i) + " lines: " + lines[i].trim());
+            bodies.merge(m.group(3), body.toString(), String::concat);
+        }
+        return bodies;
+    }
+
+    /** How many calls stand open at once, from a method on. */
+    private static int depth(Map<String, String> bodies, String name, Set<String> above) {
+        if (!above.add(name)) {
+            must(false, "8: " + name + " calls itself, and its depth is not looked at here");
+            return 0;
+        }
+        int deepest = 0;
+        Matcher call = Pattern.compile("(\\w+)\\(").matcher(bodies.get(name));
+        while (call.find()) {
+            if (bodies.containsKey(call.group(1))) deepest = Math.max(deepest, depth(bodies, call.group(1), above));
+        }
+        above.remove(name);
+        return 1 + deepest;
+    }
+
+    private static void depths(Map<String, String> bodies) {
+        must(bodies.size() > FACE.length * 2, "the methods are found in the source: " + bodies.keySet());
+        for (String face : FACE) {
+            String name = face.replaceAll("^\\w+ |\\(.*", "");
+            must(bodies.containsKey(name), name + " is found in the source");
+            if (bodies.containsKey(name)) {
+                int deep = depth(bodies, name, new HashSet<>());
+                must(deep <= 8, "11: " + name + " goes " + deep + " deep");
+            }
+        }
+    }
+
+    /** Nothing is made behind the constructor, so that a run's room is its objects' alone. */
+    private static void made(String source) {
+        for (String line : source.split("\n")) {
+            boolean field = line.matches(" +(private )?final \\w+(\\[\\])? \\w+ = new .*;");
+            boolean constructor = line.trim().equals("sheets[k] = new Sheet();");
+            must(!line.matches(".*\\bnew\\b.*") || field || constructor, "12: made by a call: " + line.trim());
         }
     }
 
@@ -119,7 +164,8 @@ public final class LanguageTest {
         face();
         inside();
         words(bare(source));
-        lengths(source);
+        depths(methods(bare(source)));
+        made(bare(source));
         System.out.println(wrong == 0 ? "the language is kept" : wrong + " rules are not kept");
         if (wrong != 0) {
             System.exit(1);

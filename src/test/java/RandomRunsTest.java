@@ -64,6 +64,8 @@ public final class RandomRunsTest {
     }
 
     private void tell(String text) {
+        // bytes that random feeds have left would spoil nearly every text: now and then they may
+        if (random.nextInt(4) > 0) same("end(0)", league.end(0), oracle.end(0));
         int at = 0;
         while (at < text.length()) {
             long v = 0;
